@@ -21,7 +21,7 @@ public final class FlightLegs {
     private static final int NOTHING = -1;
 
     private static final int IF = 0, TF = 1, DF = 2, CF = 3, CA = 4, CI = 5, VM = 6, HF = 7, PP = 8;
-    private static final int NO_TURN = 0, FLOWN_BY = 1, FLOWN_OVER = 2;
+    private static final int FLOWN_BY = 1, FLOWN_OVER = 2;
     private static final int STRAIGHT = 0, ARC = 1, PATTERN = 2;
     private static final int DIRECT = 0, TEARDROP = 1, PARALLEL = 2;
 

@@ -46,6 +46,11 @@ public final class EditsTest {
             "TF C;"
             insert(7) = BAD_INDEX; insert(1) = BAD_STATE; legCount(1) = 6
             """);
+        Script.run("a plan of one leg", """
+            fixes 0,0 0,300
+            "HF A 0 R 50 1"
+            insert(0) = 1; insert(0) = BAD_STATE; execute() = 1; flownLength() = 0; insert(0) = BAD_STATE; insert(1) = 2
+            """);
         Script.run("the leg behind gets a gap mark", """
             fixes 0,0 0,300 0,600 300,300
             "IF A;TF B;TF C"

@@ -31,6 +31,13 @@ public final class FlyingTest {
             load() = 7; execute() = 7; fly(0) = 0; currentLeg() = 3; fly(2000) = 300; currentLeg() = 4; flownLength() = 0
             fly(10) = 0; currentLeg() = 4; resume() = 5; fly(10) = 10; currentLeg() = 6
             """);
+        Script.run("through 19 legs without length", """
+            fixes 0,0 0,300
+            "IF A;TF A;TF A;TF A;TF A;TF A;TF A;TF A;TF A;TF A"
+            load() = 10
+            "TF A;TF A;TF A;TF A;TF A;TF A;TF A;TF A;TF A;TF B"
+            insert(10) = 20; execute() = 20; fly(100) = 100; currentLeg() = 19; flownLength() = 100; positionY() = 100
+            """);
     }
 
     private static void resuming() {
@@ -71,6 +78,13 @@ public final class FlyingTest {
             "HF A 9 R 50 1"
             load() = 1; execute() = 1; fly(200) = 200; positionX() = -70; positionY() = 30; presentCourse() = 9
             """);
+        // The pieces of the CF leg are 370 on course 3, an arc of 39 and 30, both on course 0.
+        Script.run("between two pieces it is the later one", """
+            fixes 0,0 300,300
+            "IF A;CF B 0"
+            load() = 2; execute() = 2; fly(369) = 369; presentCourse() = 3; fly(1) = 1; presentCourse() = 0; positionX() = 285
+            positionY() = 238; fly(100) = 69; presentCourse() = 0
+            """);
         Script.run("truncation on the way to the south-west", """
             fixes 5,5 -95,-45
             "IF A;TF B"
@@ -94,6 +108,12 @@ public final class FlyingTest {
             "IF A;TF B"
             load() = 2; execute() = 2; fly(40) = 40; directTo(1) = 2; execute() = 2; currentLeg() = 0; positionX() = 40
             positionY() = 0; presentCourse() = 6
+            """);
+        Script.run("a CF leg that became a DF leg has no course any more", """
+            fixes 0,0 300,0
+            "IF A;CF B 6"
+            load() = 2; execute() = 2; fly(2000) = 300; directTo(1) = 2; execute() = 2; presentCourse() = 6; fly(0) = 0
+            currentLeg() = 1; presentCourse() = 0; positionX() = 300
             """);
         Script.run("a CI leg that meets the course at the fix leaves a CF leg without pieces", """
             fixes 0,0 500,0

@@ -5,6 +5,7 @@ public final class LegsTest {
         kindsAndFixes();
         startingAnew();
         courses();
+        directions();
         courseToFix();
         courseToAltitude();
         interceptions();
@@ -81,6 +82,24 @@ public final class LegsTest {
             """);
     }
 
+    /** The direction of course c is (S(c), S(c + 6)); a CA leg of length 1000 ends just there. */
+    private static void directions() {
+        int[] sines = {0, 259, 500, 707, 866, 966, 1000, 966, 866, 707, 500, 259, 0, -259, -500, -707, -866, -966, -1000, -966, -866,
+            -707, -500, -259};
+        for (int c = 0; c < 24; c++) {
+            int x = sines[c];
+            int y = sines[(c + 6) % 24];
+            Script.run("course " + c, """
+                fixes 0,0 BEFORE
+                "IF A;CA COURSE 300"
+                load() = 2; legLength(1, 1) = 1000; endX(1, 1) = EX; endY(1, 1) = EY; legCourse(1, 1) = COURSE
+                "IF B;CF A COURSE"
+                load() = 2; legLength(1, 1) = 50; pieceCount(1) = 1; legCourse(1, 1) = COURSE
+                """.replace("COURSE", "" + c).replace("EX", "" + x).replace("EY", "" + y)
+                .replace("BEFORE", (-50 * x / 1000) + "," + (-50 * y / 1000)));
+        }
+    }
+
     private static void courseToFix() {
         Script.run("two segments of a CF leg", """
             fixes 0,0 300,0 300,300 300,250
@@ -130,6 +149,17 @@ public final class LegsTest {
             load() = 3; endX(1, 1) = 99; endY(1, 1) = 99; legCourse(1, 2) = 0; turnSteps(1, 2) = -3; turnLead(1, 2) = 20
             legLength(1, 1) = 121; legLength(1, 2) = 220
             """);
+        // P = (-300, 40), u = (500, 866), v = (966, -259), D = -966056, w = (400, 360): t = 467, s = 172. With C, s is -455; with C
+        // and the opposite course 19, t = 279 and s = 455.
+        Script.run("a CI leg from elsewhere", """
+            fixes -300,40 100,400 -600,400
+            "IF A;CI 2;CF B 7"
+            load() = 3; endX(1, 1) = -67; endY(1, 1) = 444; hasGap(1, 2) = 0; turnSteps(1, 2) = 5
+            "IF A;CI 2;CF C 7"
+            load() = 3; endX(1, 1) = NONE; hasGap(1, 2) = 1
+            "IF A;CI 2;CF C 19"
+            load() = 3; endX(1, 1) = -161; endY(1, 1) = 281; hasGap(1, 2) = 0; turnSteps(1, 2) = -7
+            """);
     }
 
     private static void noInterception() {
@@ -159,6 +189,12 @@ public final class LegsTest {
             load() = 3; legLength(1, 0) = 0; legLength(1, 1) = 150; legLength(1, 2) = 228; legTime(1, 0) = 0; legTime(1, 1) = 135
             legTime(1, 2) = 205; lengthTo(1, 0) = 0; lengthTo(1, 1) = 150; lengthTo(1, 2) = 378; setCruise(300, 333) = 300
             legLength(1, 1) = 166; legLength(1, 2) = 219; legTime(1, 1) = 179; legTime(1, 2) = 236; lengthTo(1, 2) = 385
+            """);
+        Script.run("a leg 0 with a length", """
+            fixes 0,0 0,300
+            "HF A 0 R 50 1;TF B"
+            load() = 2; lengthTo(1, 0) = 414; lengthTo(1, 1) = 714; totalLength(1) = 714; totalTime(1) = 642; topOfDescent(1) = 416
+            altitude(1, 0) = 95; altitude(1, 1) = 0; violation(1, 0) = 0; setWindow(0, 0, 20) = 0; topOfDescent(1) = 652
             """);
         // A pattern is flown without wind: 414 * 360 / 400; the way to it with 460.
         Script.run("the time of a pattern", """

@@ -9,6 +9,7 @@ public final class PiecesTest {
         shortSegments();
         courseToFix();
         patterns();
+        fullPlan();
         Script.end();
     }
 
@@ -81,6 +82,19 @@ public final class PiecesTest {
             pieceLength(1, 2) = 111; pieceCourse(1, 2) = 22; pieceLength(1, 3) = 150; pieceX(1, 5) = 350; pieceY(1, 5) = -50
             pieceX(1, 6) = 300; pieceY(1, 6) = -150; pieceLength(1, 6) = 111; pieceCourse(1, 6) = 14; pieceLength(1, 7) = 150
             """);
+        // Three steps: the arc ends at (14, 35) from the fix, which is 34 along the new course and 14 beside it: 34 + 2 * 14 = 62.
+        // One step: it ends at (1, 12), which is 11 along the new course and 2 beside it.
+        Script.run("turns on slanted courses", """
+            fixes 0,0 0,300
+            "IF A;TF B O;CA 3 300"
+            load() = 3; pieceX(1, 1) = 14; pieceY(1, 1) = 335; pieceLength(1, 1) = 39; pieceX(1, 2) = 43; pieceY(1, 2) = 343
+            pieceLength(1, 2) = 30; pieceCourse(1, 2) = 5; pieceLength(1, 3) = 938; pieceCourse(1, 3) = 3; pieceY(1, 3) = 1007
+            "IF A;TF B O;CA 21 300"
+            load() = 3; pieceX(1, 1) = -14; pieceY(1, 1) = 335; pieceX(1, 2) = -43; pieceY(1, 2) = 343; pieceCourse(1, 2) = 19
+            "IF A;TF B O;CA 1 300"
+            load() = 3; pieceX(1, 1) = 1; pieceY(1, 1) = 312; pieceLength(1, 1) = 13; pieceX(1, 2) = 3; pieceY(1, 2) = 314
+            pieceLength(1, 2) = 2; pieceLength(1, 3) = 985; legCourse(1, 2) = 1
+            """);
         // The next turn's lead 50 shortens the last piece, and bounds the length at which the segment is regained.
         Script.run("with a turn behind", """
             fixes 0,0 300,0 300,300 600,300 300,120 600,120
@@ -130,6 +144,26 @@ public final class PiecesTest {
             load() = 2; pieceCount(1) = 3; pieceLength(1, 0) = 370; pieceCourse(1, 0) = 3; pieceX(1, 0) = 285; pieceY(1, 0) = 238
             pieceKind(1, 1) = 1; pieceLength(1, 1) = 39; pieceCourse(1, 1) = 0; pieceX(1, 1) = 300; pieceY(1, 1) = 270
             pieceLength(1, 2) = 30; pieceX(1, 2) = 300; pieceY(1, 2) = 300; pieceLeg(1, 2) = 1
+            """);
+    }
+
+    /**
+     * Each CF leg flies 50 beyond its fix and turns back, with the radius 3; the next one turns back again at its start. Both turns
+     * have an arc of 9 and 13 to the segment, 12 behind its start: 9 + 13 + 638 + 9 + 13 + 38 = 720, and 710 after a leg that starts anew.
+     */
+    private static void fullPlan() {
+        Script.run("20 legs with nearly six pieces each", """
+            fixes 0,0 0,600 0,1200 0,1800 0,2400 0,3000 0,3600 0,4200 0,4800 0,5400 0,6000 0,6600 0,7200 0,7800 0,8400 0,9000
+            "IF A;CF B 12;CF C 12;CF D 12;CF E 12;CF F 12;CF G 12;CF H 12;CF I 12;CF J 12"
+            load() = 10
+            "CF K 12;CF L 12;CF M 12;CF N 12;CF O 12;CF P 12;IF A;CF B 12;CF C 12;CF D 12"
+            insert(10) = 20; setCruise(300, 100) = 300; pieceCount(1) = 104; legLength(1, 1) = 710; legLength(1, 2) = 720
+            legLength(1, 15) = 720; legLength(1, 16) = 0; legLength(1, 17) = 710; legLength(1, 19) = 720; totalLength(1) = 12940
+            turnKind(1, 15) = 2; turnSteps(1, 19) = 12; pieceLeg(1, 87) = 15; pieceLeg(1, 88) = 17; pieceLeg(1, 103) = 19
+            pieceX(1, 98) = -6; pieceY(1, 98) = 1200; pieceX(1, 101) = 6; pieceY(1, 101) = 1850; pieceX(1, 102) = 0
+            pieceY(1, 102) = 1838; pieceLength(1, 102) = 13; pieceLength(1, 103) = 38; pieceY(1, 103) = 1800; execute() = 20
+            fly(2000) = 2000; fly(2000) = 2000; fly(2000) = 2000; fly(2000) = 2000; fly(2000) = 2000; fly(2000) = 790
+            currentLeg() = 15; positionY() = 9000; resume() = 16; fly(2000) = 2000; fly(2000) = 150; currentLeg() = 19
             """);
     }
 

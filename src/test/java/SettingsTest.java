@@ -23,10 +23,13 @@ public final class SettingsTest {
             climbAltitude(1, 2) = 300; descentAltitude(1, 2) = 0; altitude(1, 2) = 0; topOfDescent(1) = 1057
             setCruise(300, 400) = 300; setGradients(300, 318, 500) = 300; setEnds(0, 0) = 0; topOfDescent(1) = 1057
             """);
+        // 450 over 899 is more than 500 feet a mile, over 900 it is not.
         Script.run("the steepest gradient at first", """
-            fixes 0,0 0,1000 0,1500
-            "IF A;TF B A 251;TF C A 0"
-            load() = 3; violation(1, 2) = 2; setWindow(1, 250, 250) = 0; violation(1, 2) = 0
+            fixes 0,0 0,1500 0,2399 0,2400
+            "IF A;TF B A 450;TF C - 0"
+            load() = 3; setCruise(450, 400) = 300; altitude(1, 1) = 450; violation(1, 2) = 2
+            "IF A;TF B A 450;TF D - 0"
+            load() = 3; altitude(1, 1) = 450; violation(1, 2) = 0
             """);
     }
 

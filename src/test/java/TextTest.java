@@ -67,7 +67,13 @@ public final class TextTest {
         fault("IF C", 3);
         fault("IF Z", 3);
         fault("IF AB", 3);
+        fault("IF AZ", 3);
+        fault("IF ZA", 3);
         fault("IF a", 3);
+        fault("IF [", 3);
+        fault("IF @", 3);
+        fault("CI :", 3);
+        fault("CI /", 3);
         fault("IF 1", 3);
         fault("IF A B", 6);
         fault("IF A B 20", 9);

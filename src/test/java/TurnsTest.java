@@ -41,6 +41,21 @@ public final class TurnsTest {
             load() = 12; turnLead(1, 2) = 38; turnLead(1, 5) = 50; turnKind(1, 8) = 2; turnLead(1, 8) = 0; setCruise(300, 300) = 300
             turnLead(1, 8) = 36; turnKind(1, 8) = 1; turnLead(1, 11) = 36; turnSteps(1, 11) = -7
             """);
+        int[][] leads = {{1, 412, 6}, {1, 349, 5}, {2, 363, 10}, {2, 424, 15}, {3, 363, 16}, {3, 305, 12}, {4, 380, 25}, {4, 289, 15},
+            {5, 371, 32}, {5, 310, 23}, {6, 500, 78}, {6, 100, 3}, {7, 325, 42}, {7, 371, 56}, {8, 424, 96}, {8, 363, 71}};
+        for (int[] lead : leads) {
+            Script.run("leads to the last digit", """
+                fixes 0,0
+                "IF A;CA 20 300;CA NEXT 450"
+                load() = 3; setCruise(300, SPEED) = 300; turnLead(1, 2) = LEAD; turnSteps(1, 2) = STEPS; turnKind(1, 2) = 1
+                """.replace("NEXT", "" + (20 + lead[0]) % 24).replace("SPEED", "" + lead[1]).replace("LEAD", "" + lead[2])
+                .replace("STEPS", "" + lead[0]));
+        }
+        Script.run("more than twelve steps to the right are less to the left", """
+            fixes 0,0
+            "IF A;CA 5 300;CA 16 330;CA 5 360;CA 17 390;CA 4 420"
+            load() = 6; turnSteps(1, 2) = 11; turnSteps(1, 3) = -11; turnSteps(1, 4) = 12; turnSteps(1, 5) = 11
+            """);
         Script.run("a mark of the leg before", """
             fixes 0,0 0,500 500,500
             "IF A;TF B O;TF C"
@@ -90,7 +105,8 @@ public final class TurnsTest {
         Script.run("a turn within a CF leg is flown by in spite of a mark", """
             fixes 0,0 300,300
             "IF A;CF B 0 O;VM 3"
-            load() = 3; pieceLength(1, 0) = 370; pieceKind(1, 1) = 1; pieceLength(1, 1) = 39; pieceLength(1, 2) = 30
+            load() = 3; turnKind(1, 1) = 0; turnSteps(1, 1) = 0; turnRadius(1, 1) = 0; pieceLength(1, 0) = 370; pieceKind(1, 1) = 1
+            pieceLength(1, 1) = 39; pieceLength(1, 2) = 30
             turnKind(1, 2) = 2; setFlyOver(1, false) = 1; pieceLength(1, 0) = 370; turnKind(1, 2) = 1; pieceLength(1, 2) = 10
             """);
         // The first segment has no length: the turn is at the start of the leg, after the TF leg.
