@@ -1085,6 +1085,7 @@ public final class FlightLegs {
     /** The path of a plan: what is known of its legs, made by three steps, each of which builds on those before. */
     private static final class Path {
         static final int ANEW = 0, ENDED = 1, END_X = 2, END_Y = 3, TURN = 4, STEPS = 5, RADIUS = 6, LEAD = 7, ENTRY = 8;
+        /** The columns up to ENTRY are written by Track, those up to END_COURSE by Pieces, but for its NONE, and the others by Profile. */
         static final int LENGTH = 9, TIME = 10, END_COURSE = 11, CLIMB = 12, DESCENT = 13, ALTITUDE = 14, VIOLATION = 15;
         static final int WIDTH = 16;
 
@@ -1184,6 +1185,7 @@ public final class FlightLegs {
         static final int IN_LEG = 7, IN_COURSE = 8, IN_LENGTH = 9, LINKED = 10;
         static final int TURN = 11, STEPS = 12, RADIUS = 13, LEAD = 14, NEXT_LEAD = 15;
         private static final int WIDTH = 16;
+        private static final int MOST_STEPS_FLOWN_BY = 8;
         private static final int[] LEADS = {0, 132, 268, 414, 577, 767, 1000, 1303, 1732};
 
         private final Plan plan;
@@ -1377,8 +1379,8 @@ public final class FlightLegs {
             int right = Compass.course(to - from);
             int steps = right <= 12 ? right : 24 - right;
             int radius = Compass.turnRadiusAt(fastest(row));
-            int lead = steps < LEADS.length ? radius * LEADS[steps] / 1000 : 0;
-            boolean flownBy = steps < LEADS.length && segments.get(row, IN_LENGTH) >= 2 * lead
+            int lead = leadOf(radius, steps);
+            boolean flownBy = steps <= MOST_STEPS_FLOWN_BY && segments.get(row, IN_LENGTH) >= 2 * lead
                 && segments.get(row, LENGTH) >= 2 * lead && !mustBeFlownOver(row);
             segments.put(row, TURN, flownBy ? FLOWN_BY : FLOWN_OVER);
             segments.put(row, STEPS, right <= 12 ? steps : -steps);
@@ -1388,6 +1390,10 @@ public final class FlightLegs {
                 segments.put(row - 1, NEXT_LEAD, segments.get(row, LEAD));
             }
             tellLegOfTurn(row);
+        }
+
+        private static int leadOf(int radius, int steps) {
+            return steps >= 0 && steps < LEADS.length ? radius * LEADS[steps] / 1000 : 0;
         }
 
         private int fastest(int row) {

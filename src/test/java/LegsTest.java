@@ -9,6 +9,7 @@ public final class LegsTest {
         courseToFix();
         courseToAltitude();
         interceptions();
+        truncatedInterceptions();
         noInterception();
         lengthsAndTimes();
         Script.end();
@@ -159,6 +160,25 @@ public final class LegsTest {
             load() = 3; endX(1, 1) = NONE; hasGap(1, 2) = 1
             "IF A;CI 2;CF C 19"
             load() = 3; endX(1, 1) = -161; endY(1, 1) = 281; hasGap(1, 2) = 0; turnSteps(1, 2) = -7
+            """);
+    }
+
+    private static void truncatedInterceptions() {
+        // u = (259, 966), v = (1000, 0), D = -966000, w = (1, 4): t = 4, and s = 70000 / -966000 is truncated to 0.
+        Script.run("s just below 0 is 0", """
+            fixes 0,0 1,4
+            "IF A;CI 1;CF B 6"
+            load() = 3; endX(1, 1) = 1; endY(1, 1) = 3; hasGap(1, 2) = 0
+            """);
+        // u = (966, 259), v = (0, 1000), D = 966000: t = 965000000 / 966000 = 998.
+        Script.run("t is truncated", """
+            fixes 0,0 965,900 965,259 965,257
+            "IF A;CI 5;CF B 0"
+            load() = 3; endX(1, 1) = 964; endY(1, 1) = 258; hasGap(1, 2) = 0
+            "IF A;CI 5;CF C 0"
+            load() = 3; endX(1, 1) = 964; hasGap(1, 2) = 0
+            "IF A;CI 5;CF D 0"
+            load() = 3; endX(1, 1) = NONE; hasGap(1, 2) = 1
             """);
     }
 

@@ -95,6 +95,13 @@ public final class PiecesTest {
             load() = 3; pieceX(1, 1) = 1; pieceY(1, 1) = 312; pieceLength(1, 1) = 13; pieceX(1, 2) = 3; pieceY(1, 2) = 314
             pieceLength(1, 2) = 2; pieceLength(1, 3) = 985; legCourse(1, 2) = 1
             """);
+        // The radius is 1: neither the arc nor the way back to the segment has a length.
+        Script.run("a turn flown over with the least radius", """
+            fixes 0,0 0,300
+            "IF A;TF B O;CA 1 300"
+            load() = 3; setCruise(300, 100) = 300; setWind(0, -99) = 1; turnKind(1, 2) = 2; turnRadius(1, 2) = 1; turnSteps(1, 2) = 1
+            pieceCount(1) = 2; pieceLength(1, 1) = 1000; pieceX(1, 1) = 259; pieceY(1, 1) = 1266
+            """);
         // The next turn's lead 50 shortens the last piece, and bounds the length at which the segment is regained.
         Script.run("with a turn behind", """
             fixes 0,0 300,0 300,300 600,300 300,120 600,120
