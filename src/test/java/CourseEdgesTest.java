@@ -112,25 +112,44 @@ public final class CourseEdgesTest {
         }
     }
 
-    /** With the radius 50 at K = (xK, yK) the arc ends at K + 50 * (U - W) / 1000. */
+    /** Turns that are flown over, between all courses, with three radii: where the arc ends, and where the segment is regained. */
     private static void arcsOnAllCourses() {
-        for (int a = 0; a < 24; a++) {
-            for (int b = 0; b < 24; b++) {
-                int n = (b - a + 24) % 24;
-                int side = n <= 12 ? 6 : -6;
-                int x = 200 * s(a) / 1000 + 50 * (s(a + side) - s(b + side)) / 1000;
-                int y = 200 * s(a + 6) / 1000 + 50 * (s(a + side + 6) - s(b + side + 6)) / 1000;
-                if (n != 0) {
-                    Script.run("U and W are the directions of a + 6 and b + 6 for a turn to the right, and of a - 6 and b - 6", """
-                        fixes 0,0
-                        "IF A;CA INBOUND 60 O;CA OUTBOUND 120"
-                        load() = 3; pieceKind(1, 1) = 1; pieceLength(1, 1) = LENGTH; pieceX(1, 1) = EX; pieceY(1, 1) = EY
-                        pieceCourse(1, 1) = OUTBOUND
-                        """.replace("INBOUND", "" + a).replace("OUTBOUND", "" + b).replace("EX", "" + x).replace("EY", "" + y)
-                        .replace("LENGTH", "" + 50 * Math.min(n, 24 - n) * 262 / 1000));
+        for (int speed : new int[] {300, 400, 500}) {
+            for (int a = 0; a < 24; a++) {
+                for (int b = 0; b < 24; b++) {
+                    if (a != b) {
+                        flownOver(speed, a, b);
+                    }
                 }
             }
         }
+    }
+
+    private static void flownOver(int speed, int a, int b) {
+        int n = (b - a + 24) % 24;
+        int side = n <= 12 ? 6 : -6;
+        int radius = speed * speed / 3200;
+        int x = radius * (s(a + side) - s(b + side)) / 1000;
+        int y = radius * (s(a + side + 6) - s(b + side + 6)) / 1000;
+        int p = (x * s(b) + y * s(b + 6)) / 1000;
+        int q = Math.abs((x * s(b + 6) - y * s(b)) / 1000);
+        int j = Math.max(0, p + 2 * q);
+        int endX = 1000 * s(b) / 1000;
+        int endY = 1000 * s(b + 6) / 1000;
+        int backX = endX * j / 1000;
+        int backY = endY * j / 1000;
+        int way = (int) Math.sqrt((double) ((backX - x) * (backX - x) + (backY - y) * (backY - y)));
+        int kX = 200 * s(a) / 1000;
+        int kY = 200 * s(a + 6) / 1000;
+        Script.run("U and W are the directions of a + 6 and b + 6 for a turn to the right, and of a - 6 and b - 6", """
+            fixes 0,0
+            "IF A;CA INBOUND 60 O;CA OUTBOUND 360"
+            setCruise(300, SPEED) = 300; load() = 3; turnRadius(1, 2) = RADIUS; pieceKind(1, 1) = 1; pieceLength(1, 1) = ARC
+            pieceX(1, 1) = EX; pieceY(1, 1) = EY; pieceCourse(1, 1) = OUTBOUND; pieceX(1, HPIECE) = HX; pieceY(1, HPIECE) = HY
+            pieceLength(1, 2) = WAY; pieceKind(1, 2) = 0; pieceLength(1, LAST) = REST; legCourse(1, 2) = OUTBOUND
+            """.replace("HPIECE", way > 0 ? "2" : "1").replace("LAST", way > 0 ? "3" : "2").replace("INBOUND", "" + a).replace("OUTBOUND", "" + b).replace("SPEED", "" + speed).replace("RADIUS", "" + radius)
+            .replace("EX", "" + (kX + x)).replace("EY", "" + (kY + y)).replace("HX", "" + (kX + backX)).replace("HY", "" + (kY + backY))
+            .replace("ARC", "" + radius * Math.min(n, 24 - n) * 262 / 1000).replace("WAY", "" + (way > 0 ? way : 1000 - j)).replace("REST", "" + (1000 - j)));
     }
 
     private static void distances() {

@@ -9,6 +9,7 @@ public final class FlyingEdgesTest {
     public static void main(String[] args) {
         howFar();
         refusedFlights();
+        flightsWithoutLegs();
         overTheEndsOfLegs();
         untilAGap();
         resuming();
@@ -42,6 +43,16 @@ public final class FlyingEdgesTest {
             load() = 2; fly(0) = BAD_STATE; fly(1) = BAD_STATE; fly(2001) = BAD_VALUE; execute() = 2; fly(1) = 1; setFlyOver(1, true) = 0
             fly(1) = BAD_STATE; fly(0) = BAD_STATE; fly(-1) = BAD_VALUE; flownLength() = 1; undo() = 0; fly(1) = 1; flownLength() = 2
             setFlyOver(1, true) = 0; cancel() = 2; fly(1) = 1
+            """);
+    }
+
+    private static void flightsWithoutLegs() {
+        Script.run("the active plan has no legs, after a modified plan was dropped or undone", """
+            fixes 0,0 0,300
+            "IF A;TF B"
+            load() = 2; cancel() = 0; fly(1) = BAD_STATE; fly(0) = BAD_STATE; resume() = BAD_STATE; currentLeg() = NONE
+            flownLength() = NONE; positionX() = NONE; directSaving(0) = BAD_INDEX; load() = 2; undo() = 0; fly(1) = BAD_STATE
+            resume() = BAD_STATE; positionY() = NONE; presentCourse() = NONE
             """);
     }
 

@@ -162,7 +162,7 @@ public final class HoldEdgesTest {
             setWind(-99, -99) = 1; legLength(1, 0) = 38; legTime(1, 0) = 136; setCruise(300, 500) = 300; legLength(1, 0) = 510
             setSpeedLimit(0, 500) = 999; legLength(1, 0) = 510; setSpeedLimit(0, 100) = 500; legLength(1, 0) = 38
             setCruise(300, 400) = 300; setSpeedLimit(0, 401) = 100; legLength(1, 0) = 334; setSpeedLimit(0, 399) = 401
-            legLength(1, 0) = 328; legTime(1, 0) = 295
+            legLength(1, 0) = 328; legTime(1, 0) = 295; setSpeedLimit(0, 999) = 399; setCruise(300, 456) = 300; legLength(1, 0) = 422
             """);
     }
 

@@ -209,9 +209,9 @@ public final class PathEdgesTest {
             load() = 3; endX(1, 1) = NONE; hasGap(1, 2) = 1
             """);
         // u is (259, 966), v is (1000, 0), D = -966000: s is -70 / 966 and -917 / 966 for the first two fixes, which are 0, and then
-        // -1106 / 966 and 1204 / 966.
+        // -1106 / 966 and 1204 / 966. With v = (866, 500) and the last fix it is -707000 / 707056.
         Script.run("s is truncated before it is compared", """
-            fixes 0,0 1,4 2,11 1,8 5,14
+            fixes 0,0 1,4 2,11 1,8 5,14 36,137
             "IF A;CI 1;CF B 6"
             load() = 3; endX(1, 1) = 1; endY(1, 1) = 3; hasGap(1, 2) = 0
             "IF A;CI 1;CF C 6"
@@ -220,6 +220,8 @@ public final class PathEdgesTest {
             load() = 3; endX(1, 1) = NONE; hasGap(1, 2) = 1
             "IF A;CI 1;CF E 6"
             load() = 3; endY(1, 1) = 13; hasGap(1, 2) = 0
+            "IF A;CI 1;CF F 4"
+            load() = 3; endX(1, 1) = 36; endY(1, 1) = 137; hasGap(1, 2) = 0
             """);
     }
 
@@ -246,6 +248,13 @@ public final class PathEdgesTest {
             "IF A;CI 6;TF C;CF B 0"
             load() = 4; delete(2) = 3; endX(1, 1) = NONE; hasGap(1, 2) = 1; legLength(1, 1) = 100; closeGap(2) = 0; endX(1, 1) = 500
             hasGap(1, 2) = 0
+            """);
+        Script.run("a next leg that was removed is none", """
+            fixes 0,0 500,100
+            "IF A;CI 6;CF B 0"
+            load() = 3; endX(1, 1) = 500; delete(2) = 2; endX(1, 1) = NONE; legLength(1, 1) = 100; execute() = 2; endX(0, 1) = NONE
+            "IF A;CI 6"
+            load() = 2; endX(1, 1) = NONE
             """);
         Script.run("a next leg of 20", """
             fixes 0,0 500,100

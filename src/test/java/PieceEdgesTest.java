@@ -12,6 +12,7 @@ public final class PieceEdgesTest {
         truncatedPoints();
         firstPoints();
         mostPieces();
+        pathsBuiltOverAndOver();
         Script.end();
     }
 
@@ -228,5 +229,33 @@ public final class PieceEdgesTest {
             load() = 3; setCruise(300, 100) = 300; pieceCount(1) = 10; pieceLeg(1, 3) = 1; pieceLeg(1, 4) = 2; pieceLeg(1, 9) = 2
             pieceKind(1, 4) = 1; pieceKind(1, 5) = 0; pieceKind(1, 6) = 0; pieceKind(1, 7) = 1; pieceKind(1, 8) = 0; pieceKind(1, 9) = 0
             """);
+        // A pattern, 15 legs to the north with six pieces each, one that turns only once, with four, and three back with six each.
+        Script.run("the most pieces of 20 legs", """
+            fixes 0,0 0,600 0,1200 0,1800 0,2400 0,3000 0,3600 0,4200 0,4800 0,5400 0,6000 0,6600 0,7200 0,7800 0,8400 0,9000
+            "HF A 12 R 10 1;CF B 12;CF C 12;CF D 12;CF E 12;CF F 12;CF G 12;CF H 12;CF I 12;CF J 12"
+            load() = 10
+            "CF K 12;CF L 12;CF M 12;CF N 12;CF O 12;CF P 12;CF O 0;CF N 0;CF M 0;CF L 0"
+            insert(10) = 20; setCruise(300, 100) = 300; pieceCount(1) = 113; pieceLeg(1, 0) = 0; pieceLeg(1, 1) = 1; pieceLeg(1, 90) = 15
+            pieceLeg(1, 91) = 16; pieceLeg(1, 94) = 16; pieceLeg(1, 95) = 17; pieceLeg(1, 112) = 19; pieceKind(1, 112) = 0
+            pieceLength(1, 112) = 38; pieceCourse(1, 112) = 0; pieceX(1, 112) = 0; pieceY(1, 112) = 6600; pieceLeg(1, 113) = BAD_INDEX
+            legLength(1, 15) = 720; legLength(1, 16) = 710; legLength(1, 19) = 720; totalLength(1) = 13708; execute() = 20
+            pieceCount(0) = 113; pieceY(0, 112) = 6600; totalLength(0) = 13708
+            """);
+    }
+
+    /**
+     * A path of eleven segments round a square, built anew after each of many settings, must stay the same: 250 + 9 * (78 + 200) + 78 +
+     * 250 with 400 knots, and 222 + 9 * (122 + 144) + 122 + 222 with 500. Direct to the last fix it is 78 + 254.
+     */
+    private static void pathsBuiltOverAndOver() {
+        StringBuilder script = new StringBuilder("""
+            fixes 0,0 0,300 300,300 300,0
+            "IF A;TF B;TF C;TF D;TF A;TF B;TF C;TF D;TF A;TF B;TF C;TF D"
+            load() = 12; execute() = 12; totalLength(0) = 3080; pieceCount(0) = 21
+            """);
+        for (int i = 0; i < 40; i++) {
+            script.append("setCruise(300, 500) = 300; totalLength(0) = 2960; setCruise(300, 400) = 300; totalLength(0) = 3080\n");
+        }
+        Script.run("the same settings, the same path", script + "pieceCount(0) = 21; directSaving(11) = 2748\n");
     }
 }

@@ -29,6 +29,7 @@ public final class PlanEdgesTest {
         plansAtFirst();
         lastLegOfTwenty();
         fixesOfLegs();
+        manyCalls();
         Script.end();
     }
 
@@ -145,5 +146,17 @@ public final class PlanEdgesTest {
             legFix(1, 6) = NONE; legFix(1, 7) = NONE; legFix(1, 8) = BAD_INDEX; execute() = 8; directTo(4) = 5; legFix(1, 0) = NONE
             legKind(1, 0) = 8
             """);
+    }
+
+    private static void manyCalls() {
+        StringBuilder script = new StringBuilder("""
+            fixes 0,0 0,9999
+            "IF A;TF B"
+            load() = 2; execute() = 2
+            """);
+        for (int i = 1; i <= 248; i++) {
+            script.append("fly(40) = 40; flownLength() = ").append(40 * i).append('\n');
+        }
+        Script.run("An object is used for at most 512 calls after it has been made", script + "positionY() = 9920\nfly(2000) = 79\n");
     }
 }

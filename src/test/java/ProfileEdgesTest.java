@@ -153,15 +153,17 @@ public final class ProfileEdgesTest {
     }
 
     private static void tooSteep() {
-        // From 90 to 0 over 180 it is 500 feet a mile; the legs behind are 180 and 179 long.
+        // From 90 to 0 over 180 it is 500 feet a mile; the legs behind are 180, 179 and 181 long; 181 * 497 = 89957.
         Script.run("It is too steep if (..) * 1000 is greater than its length times the steepest gradient", """
-            fixes 0,0 0,300 0,480 0,479
+            fixes 0,0 0,300 0,480 0,479 0,481
             "IF A;TF B A 90;TF C - 0"
             load() = 3; altitude(1, 1) = 90; legLength(1, 2) = 180; violation(1, 2) = 0; setGradients(300, 318, 499) = 300
             violation(1, 2) = 2; setGradients(300, 318, 501) = 300; violation(1, 2) = 0
             "IF A;TF B A 90;TF D - 0"
             load() = 3; setGradients(300, 318, 500) = 300; violation(1, 2) = 2; setGradients(300, 318, 502) = 300; violation(1, 2) = 2
             setGradients(300, 318, 503) = 300; violation(1, 2) = 0
+            "IF A;TF B A 90;TF E - 0"
+            load() = 3; setGradients(300, 318, 497) = 300; violation(1, 2) = 2; setGradients(300, 318, 498) = 300; violation(1, 2) = 0
             """);
         Script.run("the departure altitude for leg 0", """
             fixes 0,0
@@ -231,6 +233,18 @@ public final class ProfileEdgesTest {
             "IF A;TF B A 60;TF C A 60;TF D A 60;TF E"
             load() = 5; topOfDescent(1) = 1012; setWindow(3, 59, 59) = 0; topOfDescent(1) = 897; setWindow(3, 61, 61) = 0
             topOfDescent(1) = 1009; setWindow(1, 61, 61) = 0; topOfDescent(1) = 1009; setWindow(1, 62, 62) = 0; topOfDescent(1) = 594
+            """);
+        // Legs 1 and 2 are at 31, from the descent over the last 100, which needs 31 * 1000 / 318 = 97 of them.
+        Script.run("the greatest altitude, where the descent bounds it", """
+            fixes 0,0 0,1000 0,1100
+            "IF A;TF B;TF B;TF C"
+            load() = 4; altitude(1, 1) = 31; altitude(1, 2) = 31; climbAltitude(1, 2) = 300; topOfDescent(1) = 1003
+            """);
+        // Leg 3 climbs again, to 40, and its descent altitude is 127; but the highest one is leg 1, at 90.
+        Script.run("the greatest altitude, where the climb bounds it", """
+            fixes 0,0 0,300 0,600 0,700 0,1100
+            "IF A;TF B;TF C - 10;TF D;TF E"
+            load() = 5; altitude(1, 1) = 90; altitude(1, 2) = 10; altitude(1, 3) = 40; descentAltitude(1, 3) = 127; topOfDescent(1) = 349
             """);
     }
 

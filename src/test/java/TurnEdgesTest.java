@@ -70,12 +70,14 @@ public final class TurnEdgesTest {
     }
 
     private static void radii() {
-        // 400 * 400 = 160000 = 50 * 3200, and 399 * 399 = 159201; 500 + 95 = 595: 354025 / 3200 = 110.
+        // 400 * 400 = 160000 = 50 * 3200, and 399 * 399 = 159201; 456 * 456 is 64 less than 65 * 3200, 463 * 463 is 31 less than
+        // 67 * 3200; 500 + 95 = 595: 354025 / 3200 = 110.
         Script.run("R = g * g / 3200", """
             fixes 0,0
             "IF A;CA 5 300;CA 7 450"
             load() = 3; turnRadius(1, 2) = 50; setCruise(300, 399) = 300; turnRadius(1, 2) = 49; setCruise(300, 401) = 300
             turnRadius(1, 2) = 50; setCruise(300, 404) = 300; turnRadius(1, 2) = 51; setCruise(300, 403) = 300; turnRadius(1, 2) = 50
+            setCruise(300, 456) = 300; turnRadius(1, 2) = 64; setCruise(300, 463) = 300; turnRadius(1, 2) = 66
             setCruise(300, 500) = 300; setWind(99, 0) = 1; turnRadius(1, 2) = 110; turnLead(1, 2) = 29
             """);
     }
