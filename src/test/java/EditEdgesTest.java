@@ -191,6 +191,21 @@ public final class EditEdgesTest {
                 insert(1) = 4; legKind(1, 1) = 6; legFix(1, 2) = 1; legFix(1, 3) = 2
                 """.replace("LAST", last));
         }
+        String sixteen = "fixes 0,0 0,1 0,2 0,3 0,4 0,5 0,6 0,7 0,8 0,9 0,10 0,11 0,12 0,13 0,14 0,15\n";
+        Script.run("then the legs from index to j are removed, of a full plan", sixteen + """
+            "IF A;TF B;TF C;TF D;TF E;TF F;TF G;TF H;TF I;TF J;TF K;TF L"
+            load() = 12
+            "TF M;TF N;TF O;TF P;TF A;TF B;TF C;TF D"
+            insert(12) = 20
+            "DF L"
+            insert(2) = 11; legFix(1, 1) = 1; legFix(1, 2) = 11; legKind(1, 2) = 2; legFix(1, 3) = 12; legFix(1, 6) = 15
+            legFix(1, 7) = 0; legFix(1, 10) = 3; legFix(1, 11) = BAD_INDEX; gapCount(1) = 0; undo() = 2
+            "VM 1;VM 2;DF D"
+            insert(1) = 20; legKind(1, 1) = 6; legKind(1, 2) = 6; legFix(1, 3) = 3; legFix(1, 4) = 4; legFix(1, 19) = 3; undo() = 2
+            insert(2) = FULL; insert(17) = 20; legKind(1, 17) = 6; legFix(1, 19) = 3; legFix(1, 16) = 0
+            "DF D"
+            insert(1) = 18; legFix(1, 1) = 3; legFix(1, 2) = 4; legFix(1, 17) = 3; legKind(1, 15) = 6; legFix(1, 14) = 0
+            """);
         Script.run("the gap mark of the leg behind j stays as it is", """
             fixes 0,0 0,300 0,600 0,900
             "IF A;TF B;TF C;TF D;TF C"

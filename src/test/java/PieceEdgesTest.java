@@ -5,6 +5,7 @@ public final class PieceEdgesTest {
         shortArcs();
         leadsUseUpSegments();
         directBehindAnArc();
+        directToTheEndOfTheArc();
         regainedSegments();
         arcsTooShortToRegain();
         leadOfTheNextSegment();
@@ -98,6 +99,21 @@ public final class PieceEdgesTest {
             """);
     }
 
+    /** With 310 knots the radius is 30, and the turn of one step at (0, 0) ends at (1, 7), just where the fix is. */
+    private static void directToTheEndOfTheArc() {
+        Script.run("X(A, B, e, l) be .. B if l is 0", """
+            fixes 0,-300 0,0 1,7 1,307
+            "IF A;TF B O;DF C"
+            load() = 3; setCruise(300, 310) = 300; turnKind(1, 2) = 2; turnSteps(1, 2) = 1; turnRadius(1, 2) = 30; pieceCount(1) = 2
+            pieceKind(1, 1) = 1; pieceLength(1, 1) = 7; pieceX(1, 1) = 1; pieceY(1, 1) = 7; legLength(1, 2) = 7; endX(1, 2) = 1
+            "IF A;TF B O;DF C;TF D"
+            load() = 4; turnKind(1, 3) = 1; turnSteps(1, 3) = -1; turnLead(1, 3) = 3; pieceCount(1) = 4; legLength(1, 2) = 7
+            pieceKind(1, 2) = 1; pieceX(1, 2) = 1; pieceY(1, 2) = 10; pieceLength(1, 3) = 297
+            "IF A;TF B O;HF C 1 L 10 1"
+            load() = 3; pieceCount(1) = 3; pieceKind(1, 1) = 1; pieceKind(1, 2) = 2; pieceX(1, 2) = 1; pieceY(1, 2) = 7
+            """);
+    }
+
     private static void regainedSegments() {
         // The arc of six steps ends 50 ahead and 50 aside: j = 50 + 2 * 50 = 150.
         Script.run("j = p + 2 * q, but .. at most Q - e", """
@@ -132,6 +148,13 @@ public final class PieceEdgesTest {
             load() = 3; setCruise(300, 114) = 300; turnRadius(1, 2) = 4; pieceCount(1) = 4; pieceLength(1, 1) = 1; pieceX(1, 1) = 0
             pieceY(1, 1) = 301; pieceLength(1, 2) = 1; pieceX(1, 2) = 0; pieceY(1, 2) = 300; pieceCourse(1, 2) = 12
             pieceLength(1, 3) = 1000
+            """);
+        // The segments are 1 long, and j is 1: the way from the end of the arc, (6, 1), is to the end of the segment.
+        Script.run("at most Q - e, on a segment of length 1", """
+            fixes 0,0 0,1
+            "IF A;TF B;TF A"
+            load() = 3; setCruise(300, 100) = 300; pieceCount(1) = 3; pieceX(1, 1) = 6; pieceY(1, 1) = 1; pieceX(1, 2) = 0
+            pieceY(1, 2) = 0; pieceLength(1, 2) = 6; pieceCourse(1, 2) = 17
             """);
         // R = 3: E is K itself, so there is neither an arc nor a way to H.
         Script.run("E and H are the same point", """
