@@ -1,4 +1,4 @@
-/** The edges of the terms on divisions, products, courses, points and distances. Titles quote the document. */
+/** The edges of the terms on divisions, products, courses, points and distances. Most titles quote the document. */
 public final class CourseEdgesTest {
     private static final int[] S = {0, 259, 500, 707, 866, 966, 1000, 966, 866, 707, 500, 259, 0, -259, -500, -707, -866, -966, -1000,
         -966, -866, -707, -500, -259};

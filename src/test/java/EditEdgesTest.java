@@ -1,4 +1,4 @@
-/** The edges of the edits, promises 10 to 17, and of what the terms say of plans and legs. Titles quote the document. */
+/** The edges of the edits, promises 10 to 17, and of what the terms say of plans and legs. Most titles quote the document. */
 public final class EditEdgesTest {
     /** Five fixes on a line, and the plan that joins them, whose legs are 300 long. */
     private static final String LINE = """

@@ -1,4 +1,4 @@
-/** The edges of flying, the present position, and promises 21 to 28. Titles quote the document. */
+/** The edges of flying, the present position, and promises 21 to 28. Most titles quote the document. */
 public final class FlyingEdgesTest {
     private static final String LINE = """
         fixes 0,0 0,300 0,600 0,900

@@ -1,4 +1,4 @@
-/** The edges of the history and the progress, and of promises 18 to 20: undo, execute and cancel. Titles quote the document. */
+/** The edges of the history and the progress, and of promises 18 to 20: undo, execute and cancel. Most titles quote the document. */
 public final class HistoryEdgesTest {
     private static final String LINE = """
         fixes 0,0 0,300 0,600 0,900 500,500

@@ -1,4 +1,4 @@
-/** The edges of holding patterns, and of promises 43 and 44. Titles quote the document. */
+/** The edges of holding patterns, and of promises 43 and 44. Most titles quote the document. */
 public final class HoldEdgesTest {
     public static void main(String[] args) {
         ranges();

@@ -1,4 +1,4 @@
-/** The edges of where a leg starts anew, and of the segments of each kind of leg. Titles quote the document. */
+/** The edges of where a leg starts anew, and of the segments of each kind of leg. Most titles quote the document. */
 public final class PathEdgesTest {
     public static void main(String[] args) {
         legZeroStartsAnew();

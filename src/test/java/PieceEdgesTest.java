@@ -1,4 +1,4 @@
-/** The edges of pieces: which are not made, where they end, and what shortens them. Titles quote the document. */
+/** The edges of pieces: which are not made, where they end, and what shortens them. Most titles quote the document. */
 public final class PieceEdgesTest {
     public static void main(String[] args) {
         noPieces();

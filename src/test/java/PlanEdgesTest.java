@@ -1,4 +1,4 @@
-/** The edges of plan, leg and piece numbers, in promises 29 to 61. Titles quote the document. */
+/** The edges of plan, leg and piece numbers, in promises 29 to 61. Most titles quote the document. */
 public final class PlanEdgesTest {
     private static final String[] OF_PLAN = {"legCount", "pieceCount", "topOfDescent", "gapCount", "totalLength", "totalTime",
         "violationCount"};

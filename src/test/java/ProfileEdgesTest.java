@@ -1,4 +1,4 @@
-/** The edges of the vertical profile, and of promises 52 to 61. Titles quote the document. */
+/** The edges of the vertical profile, and of promises 52 to 61. Most titles quote the document. */
 public final class ProfileEdgesTest {
     /** Legs of 300, 300 and 1000: they climb by 90, 90 and 300, and descend by 95, 95 and 318. */
     private static final String LINE = """

@@ -1,4 +1,4 @@
-/** The edges of fixes, settings, the ground speed, and promises 5 to 9. Titles quote the document. */
+/** The edges of fixes, settings, the ground speed, and promises 5 to 9. Most titles quote the document. */
 public final class SettingsEdgesTest {
     private static final String LEAST = "-2147483648";
     private static final String MOST = "2147483647";

@@ -1,4 +1,4 @@
-/** The edges of the text of legs, its grammar and its fault, and of promises 1 to 4. Titles quote the document. */
+/** The edges of the text of legs, its grammar and its fault, and of promises 1 to 4. Most titles quote the document. */
 public final class TextEdgesTest {
     private static final int NONE = FlightLegs.NONE;
 

@@ -1,4 +1,4 @@
-/** The edges of inbound courses and turns, and of promises 39 to 42. Titles quote the document. */
+/** The edges of inbound courses and turns, and of promises 39 to 42. Most titles quote the document. */
 public final class TurnEdgesTest {
     public static void main(String[] args) {
         noTurn();
